@@ -20,6 +20,9 @@ public final class CloudCalls {
     private static final int IMAGES = 2;
     private static final int MOST_AHEAD = 60;
     private static final int MOST_SEED = 1000000;
+    private static final int MOST_FEW = 20;
+    private static final int MOST_RINGS = 99;
+    private static final long WHOLE_CHANCE = 1000000000000L;
 
     private static final int NIGHT = 0;
     private static final int FADES = 1;
@@ -99,7 +102,7 @@ public final class CloudCalls {
     private final Paper paper = new Paper(laws);
     private final Reader reader = new Reader();
     private final byte[] tape = new byte[MOST_BYTES];
-    private final long[] chances = new long[MOST_TIMES];
+    private final long[] chances = new long[MOST_FEW];
     private final int[] refused = new int[7];
     private int tapeLength;
     private int faultPlace = NONE;
@@ -412,12 +415,12 @@ public final class CloudCalls {
     }
 
     public long few(int k, int n) {
-        if (k < 1 || k > MOST_TIMES || n < 0 || n > 99) {
+        if (k < 1 || k > MOST_FEW || !isWithin(n, MOST_RINGS)) {
             return NONE;
         }
         int fades = now.term[FADES];
-        for (int j = 0; j < MOST_TIMES; j++) {
-            chances[j] = j == 0 ? 1000000000000L : 0L;
+        for (int j = 0; j < k; j++) {
+            chances[j] = j == 0 ? WHOLE_CHANCE : 0L;
         }
         for (int i = 0; i < n; i++) {
             for (int j = k - 1; j >= 0; j--) {
@@ -665,7 +668,7 @@ public final class CloudCalls {
             return needed;
         }
 
-        /** A cloud's or walker's way asks roads alone: a smashed box does not bar it. */
+        /** A way is asked of roads alone: no smashed box bars it. */
         void measureTo(int to) {
             for (int b = 0; b < BOXES; b++) {
                 far[b] = b == to ? 0 : NONE;
@@ -988,33 +991,24 @@ public final class CloudCalls {
         }
 
         boolean is(String word) {
-            return stop - start == word.length() && standsIn(word, 0);
-        }
-
-        /** Whether the token's signs stand in a text from a place on. */
-        private boolean standsIn(String words, int place) {
-            if (place + stop - start > words.length()) {
-                return false;
-            }
-            for (int i = start; i < stop; i++) {
-                if (bytes[i] != words.charAt(place + i - start)) {
-                    return false;
-                }
-            }
-            return true;
+            return oneOf(word) == 0;
         }
 
         /** Which of words with a blank between the token is, from 0; NONE of them. */
         int oneOf(String words) {
             int word = 0;
-            int begin = 0;
+            int place = start;
+            boolean alike = true;
             for (int i = 0; i <= words.length(); i++) {
-                if (i == words.length() || words.charAt(i) == BLANK) {
-                    if (i - begin == stop - start && standsIn(words, begin)) {
-                        return word;
-                    }
+                if (i < words.length() && words.charAt(i) != BLANK) {
+                    alike = alike && place < stop && bytes[place] == words.charAt(i);
+                    place++;
+                } else if (alike && place == stop) {
+                    return word;
+                } else {
                     word++;
-                    begin = i + 1;
+                    place = start;
+                    alike = true;
                 }
             }
             return NONE;
@@ -1068,7 +1062,7 @@ public final class CloudCalls {
         }
 
         private boolean expect(String sign) {
-            if (!tokens.is(sign)) {
+            if (tokens.oneOf(sign) == NONE) {
                 return fail();
             }
             tokens.step();
