@@ -229,6 +229,9 @@ final class PromisesTest {
         C.due("status 0", x.status(), 0);
         C.due("wrong()", x.wrong(), 1);
         Check.feed(x, new byte[] {0, 1, 4});
+        x.end(2);
+        C.due("what was behind the end is gone", x.row(), 0);
+        Check.feed(x, new byte[] {0, 1, 4});
         C.due("all right", x.row(), 1);
         C.due("wrong()", x.wrong(), 0);
     }
@@ -285,6 +288,23 @@ final class PromisesTest {
         fault("tells " + (char) 0, 6);
         fault("tells [1)", 8);
         fault("bars if (1=1]", 12);
+        fault("tellsz 1", 0);
+        fault("tells 1a", 7);
+        fault("tells;bars", 5);
+        fault("tells 1+;bars", 8);
+        fault("tells 1*;bars", 8);
+        fault("tells [;bars", 7);
+        fault("tells [1;bars", 8);
+        fault("bars if;bars", 7);
+        fault("bars if 1;bars", 9);
+        fault("bars if 1=;bars", 10);
+        fault("bars if not;bars", 11);
+        fault("bars if (;bars", 9);
+        fault("bars if (1=1;bars", 12);
+        fault("bars if 1=1 and;bars", 15);
+        fault("bars if 1=1 and or 2=2", 16);
+        fault("bars if 1=1 or;bars", 14);
+        fault("bars if 1=1 or and 2=2", 15);
     }
 
     private static void lawLimits() {
@@ -456,6 +476,12 @@ final class PromisesTest {
         ordersFault("ring 0 to 0 times 3", -1);
         ordersFault("ring 0 0", 7);
         ordersFault("ring to 0", 5);
+        ordersFault("ring 0 if 1 = 1", 7);
+        ordersFault("ring 0 times 2", 7);
+        ordersFault("ring 0 to if 1 = 1", 10);
+        ordersFault("ring 0 to;pass", 9);
+        ordersFault("pass times;pass", 10);
+        ordersFault("pass times if 1 = 1", 11);
         ordersFault("ring 0 to", 9);
         ordersFault("ring 0 times 2 to 0", 7);
         ordersFault("engage at 5 + busy 4", -1);
@@ -763,6 +789,17 @@ final class PromisesTest {
         C.due("again in sixty", y.again(), 60);
         y.cloud(0, 1, 0);
         C.due("meeting now", y.meeting(0, 1), 0);
+        y.cloud(0, 1, 1);
+        y.terms(0, 0);
+        Check.law(y, "goes box; goes 0 if night = 59 and cloud = 2");
+        y.force(3);
+        C.due("meeting in sixty", y.meeting(0, 2), 60);
+        y.terms(0, 1);
+        C.due("again in one", y.again(), 1);
+        C.due("in fifty-nine", y.meeting(2, 0), 59);
+        Check.law(y, "goes box; goes 0 if night = 61 and cloud = 2");
+        y.force(4);
+        C.due("not in sixty", y.meeting(0, 2), -1);
         CloudCalls z = new CloudCalls();
         z.cloud(0, 1, 0);
         z.cloud(1, 1, 2);
