@@ -231,6 +231,17 @@ final class CallsTest {
         C.due("1 was, from the other", x.road(5, 0, 0), 1);
         C.due("none was", x.road(0, 5, 0), 0);
         C.due("none is", x.box(0, 7), 0);
+        for (int one = 0; one < 6; one++) {
+            for (int other = 0; other < 6; other++) {
+                if (one != other) {
+                    x.road(one, other, 4);
+                    C.due("joined, both ways", x.box(one, 1) << 6 | x.box(other, 1), 1 << other + 6 | 1 << one);
+                    x.road(one, other, 0);
+                    C.due("none, both ways", x.box(one, 1) + x.box(other, 1), 0);
+                }
+            }
+        }
+        x = new CloudCalls();
         say.promise(7, "-1 (one alone, too).");
         for (int b = 0; b < 6; b++) {
             refusedBy(x, "one alone", x.road(b, b, 1), -1);

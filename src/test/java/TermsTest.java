@@ -10,6 +10,7 @@ final class TermsTest {
         say = new Sentences(C);
         boxesAndRoads();
         cloudsAndFolk();
+        fullCircuit();
         heardAndTerms();
         joined();
         refused();
@@ -19,6 +20,7 @@ final class TermsTest {
         tests();
         sums();
         limits();
+        textsInTurn();
         faults();
         broken();
         laws();
@@ -213,6 +215,65 @@ final class TermsTest {
         C.due("knowing is as it was", x.at(0, 4), 999);
     }
 
+    /** Six clouds in boxes 5 down to 0, five of the folk by boxes 1 to 5, all with all ears. */
+    private static CloudCalls full() {
+        CloudCalls x = circle();
+        for (int c = 0; c < 6; c++) {
+            x.cloud(c % 5, c + 1, 5 - c);
+        }
+        for (int f = 0; f < 5; f++) {
+            x.folk(f + 1, 31);
+        }
+        return x;
+    }
+
+    private static void fullCircuit() {
+        say.term("I", "CLOUDS 0 .. 5 (6 at most)");
+        CloudCalls x = full();
+        C.due("a night", x.pass(), 1);
+        for (int c = 0; c < 6; c++) {
+            C.due("it went", x.of(c, 2), (6 - c) % 6);
+            C.due("it goes on", x.of(c, 3), (7 - c) % 6);
+            C.due("where", x.where(c, 4), (10 - c) % 6);
+        }
+        C.due("undone", x.undo(), 3);
+        for (int c = 0; c < 6; c++) {
+            C.due("it is back", x.of(c, 2), 5 - c);
+            C.due("first in its box", x.first(5 - c, 1), c);
+        }
+        C.due("again", x.again(), 6);
+        C.due("the last two do not meet", x.meeting(4, 5), -1);
+        C.due("cloud 5 by 4, all but cloud 0", x.answered(6), 4);
+        C.due("nobody", x.answered(1), 5);
+        C.due("how much", x.answered(0), 20);
+        C.due("can be", x.canBe(), 63);
+        C.due("ask", x.ask(0) * 10 + x.ask(1), 1);
+        C.due("at", Check.orders(x, "pass if at 0=5 and at 1=4 and at 2=3 and at 3=2 and at 4=1 and at 5=0; pass if at 5=1"), 2);
+        C.holds("seasons", x.seasons(11, 6) >= 0);
+        for (int c = 0; c < 6; c++) {
+            C.due("two nights and six on", x.drawn(c, 0), (7 - c) % 6);
+        }
+        say.term("I", "FOLK 0 .. 4 (5 at most)");
+        x = full();
+        for (int f = 0; f < 5; f++) {
+            C.due("told", x.ring(f, f), f + 1);
+            C.due("engaged", x.engage(f), 1);
+            C.due("soaked", x.ring(5, f), 6);
+        }
+        C.due("all knowing", x.count(3), 15);
+        C.due("all wet", x.count(4), 30);
+        C.due("busy", Check.orders(x, "pass if busy 0=1 and busy 1=1 and busy 2=1 and busy 3=1 and busy 4=1 and learnt=15 and soaked=30"), 1);
+        // 1 2 3 4 5 to each in turn, then 6 to the one with 1.
+        int[] shares = {7, 2, 3, 4, 5};
+        for (int f = 0; f < 5; f++) {
+            C.due("fair", x.fair(f), shares[f]);
+        }
+        C.due("answered by none of them", x.answered(0), 0);
+        C.due("leave", x.leave(0) * 100 + x.leave(1), 562);
+        C.due("heard by the last", x.heard(4, 6), 1);
+        C.due("can be", x.canBe(), 32);
+    }
+
     private static void heardAndTerms() {
         say.term("I", "HEARD, 6 at most: a cloud nobody knows told one of the FOLK 0 .. 9.");
         CloudCalls x = village();
@@ -338,6 +399,13 @@ final class TermsTest {
         lawFault("tells1if2<3and not4=5or6>7", -1);
         lawFault("   tells   [   1   ]   ;   bars   ", -1);
         lawFault("barsif1=1", 0);
+        for (char letter = 'a'; letter <= 'z'; letter++) {
+            lawFault("bars" + letter, 0);
+            lawFault("tells mood" + letter, 6);
+        }
+        for (char digit = '0'; digit <= '9'; digit++) {
+            lawFault("tells 100" + digit, digit == '0' ? -1 : 6);
+        }
         lawFault("bars if 1=1 andnot 1=1", 12);
         lawFault("tells 10 00", 9);
         lawFault("tells 1000", -1);
@@ -509,6 +577,20 @@ final class TermsTest {
         ordersFault("ring 1 to " + "[".repeat(9) + "1" + "]".repeat(9), 18);
         tells("tells [1+[1+[1+[1+[1+[1+[1+[1]]]]]]]]", 8);
         test("1=1 and (2=2 and (3=3 and (4=4 and (5=5 and (6=6 and [[7]]=7)))))", 1);
+    }
+
+    private static void textsInTurn() {
+        say.term("II", "50 PARTS that are NUMBERS and words (FAULT at the 51st), 8 brackets of both kinds within one another (FAULT at the 9th) at most.");
+        CloudCalls x = new CloudCalls();
+        x.image(0);
+        for (int i = 0; i < 12; i++) {
+            C.due("each text has fifty", Check.orders(x, "smash [1]" + "*1".repeat(45) + " if (1=1 and 2=2)"), 1);
+            C.due("each is run", x.count(2), 2);
+            C.due("each has no more", Check.orders(x, "smash [1]" + "*1".repeat(46) + " if (1=1 and 2=2)"), -6);
+            Check.law(x, "tells [[[[[[[[1]]]]]]]]" + "+1".repeat(47) + " if 1=1");
+            C.due("each law has fifty", x.status() * 100 + x.fault(), -1);
+            x.back(0);
+        }
     }
 
     private static void faults() {
@@ -912,6 +994,23 @@ final class TermsTest {
             C.due("it is undone", x.undo(), 1);
         }
         x = village();
+        for (int i = 0; i < 19; i++) {
+            C.holds("done", i % 4 == 0 ? x.ring(0, 0) >= 0 : i % 4 == 1 ? x.engage(i % 3 % 2) >= 0 : i % 4 == 2 ? x.smash(2 + i % 3) >= 0 : x.pass() > 0);
+        }
+        CloudCalls y = village();
+        for (int i = 0; i < 19; i++) {
+            C.holds("done", i % 4 == 0 ? y.ring(0, 0) >= 0 : i % 4 == 1 ? y.engage(i % 3 % 2) >= 0 : i % 4 == 2 ? y.smash(2 + i % 3) >= 0 : y.pass() > 0);
+        }
+        C.due("more than are kept, then none", Check.orders(x, "smash 5 times 9; engage 1 times 9; pass times 9; smash 6"), -3);
+        for (int i = 0; i < 17; i++) {
+            C.due("what can be undone is as it was", x.undo(), y.undo());
+            for (int what = 2; what < 5; what++) {
+                C.due("count(" + what + ")", x.count(what), y.count(what));
+            }
+            C.due("engaged", x.at(0, 2) * 10 + x.at(1, 2), y.at(0, 2) * 10 + y.at(1, 2));
+            C.due("night", x.count(15) * 100 + x.of(0, 2) * 10 + x.of(1, 2), y.count(15) * 100 + y.of(0, 2) * 10 + y.of(1, 2));
+        }
+        x = village();
         x.terms(0, 997);
         C.due("night 999", Check.orders(x, "pass times 3"), -3);
         C.due("night", x.count(15), 997);
@@ -1071,6 +1170,19 @@ final class TermsTest {
         }
         x.smash(0);
         C.due("none could ring now", x.answered(0), 0);
+        x = new CloudCalls();
+        x.cloud(0, 3, 0);
+        x.image(0);
+        x.folk(0, 1);
+        x.cloud(0, 9, 0);
+        C.due("by whom, not asked how much", x.answered(2), 0);
+        C.due("by whom, not asked how much", x.answered(1), 5);
+        C.due("how much", x.answered(0), 9);
+        x.back(0);
+        C.due("nothing of what was asked earlier", x.answered(0), 0);
+        x.folk(0, 1);
+        C.due("nothing of what was asked earlier", x.answered(0), 3);
+        C.due("by her", x.answered(1), 0);
     }
 
     private static void canBeAndAsk() {
@@ -1199,6 +1311,12 @@ final class TermsTest {
         x.smash(0);
         x.road(1, 4, 9);
         C.due("however long", x.leave(0) * 100 + x.leave(1), 218);
+        x = circle();
+        x.road(0, 5, 0);
+        for (int b : new int[] {0, 1, 2, 3, 5}) {
+            x.folk(b, 0);
+        }
+        C.due("all six", x.leave(0) * 100 + x.leave(1), 663);
         say.term("III", "NEEDED: BOXES not SMASHED without which two others that are JOINED would not be.");
         x = circle();
         C.due("none", x.needed(), 0);
@@ -1208,6 +1326,12 @@ final class TermsTest {
         C.due("3 ends, 4 is between", x.needed(), 16);
         x.smash(4);
         C.due("no more", x.needed(), 0);
+        for (int middle = 0; middle < 6; middle++) {
+            x = new CloudCalls();
+            x.road(middle, (middle + 2) % 6, 1);
+            x.road(middle, (middle + 5) % 6, 1);
+            C.due("the middle of three", x.needed(), 1 << middle);
+        }
         say.term("III", "FAIR: of all CLOUDS that could RING to any of the FOLK, ENGAGED or not, CLOUD by CLOUD (rising) to one who has least so far, the lowest of alike ones: what each has then (as TOLD; those it could RING to alone).");
         x = new CloudCalls();
         x.folk(0, 31);
@@ -1326,7 +1450,7 @@ final class TermsTest {
             x.folk(0, 3);
             x.folk(3, 6);
             x.terms(0, night);
-            under(x, "tells rage+night%2; soaks 2; goes 2 if box=1 and night%3=0; bars if folk=1 and mood=0 and night%5=0");
+            under(x, "tells rage+night%2; tells 0 if night%3=1; soaks 2; goes 2 if box=1 and night%3=0; bars if folk=1 and mood=0 and night%5=0");
         }
         long s = seed;
         int rang = 0;
@@ -1402,7 +1526,7 @@ final class TermsTest {
             C.due("image", x.image(k), -1);
             C.due("back", x.back(k), -1);
         }
-        under(x, "tells 4");
+        under(x, "tells 4; tells 6 if folk=1");
         x.heard(0, 4);
         x.terms(2, 3);
         x.ring(0, 0);
